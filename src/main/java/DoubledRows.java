@@ -398,13 +398,13 @@ public final class DoubledRows {
         if (length == 0) {
             return 0;
         }
-        return length == 1 << greatestLevel(length) ? 1 : 2;
+        return length == (1 << greatestLevel(length)) ? 1 : 2;
     }
 
     /** The greatest level of which one cell is no longer than so many values. */
     private static int greatestLevel(int length) {
         int level = 0;
-        while (level < MOST_LEVELS - 1 && 2 << level <= length) {
+        while (level < MOST_LEVELS - 1 && (2 << level) <= length) {
             level++;
         }
         return level;
@@ -415,7 +415,7 @@ public final class DoubledRows {
     }
 
     private static boolean isAmong(long places, int place) {
-        return (places >>> place & 1) != 0;
+        return ((places >>> place) & 1) != 0;
     }
 
     /** All that a change may alter and undo brings back. */
@@ -504,7 +504,7 @@ public final class DoubledRows {
         }
 
         boolean isCellWrong(int level, int place) {
-            long itsPlaces = (1L << (1 << level)) - 1 << place;
+            long itsPlaces = ((1L << (1 << level)) - 1) << place;
             return (waiting & itsPlaces) == 0
                     && cellAt(level, place) != leastByValues(place, place + (1 << level) - 1);
         }
@@ -540,7 +540,7 @@ public final class DoubledRows {
         /** By rising levels, since each cell is written from two of the level below. */
         void writeCellsOver(int from, int to) {
             for (int level = 1; level < MOST_LEVELS; level++) {
-                int half = 1 << level - 1;
+                int half = 1 << (level - 1);
                 int last = lastCellOver(level, to);
                 for (int place = firstCellOver(level, from); place <= last; place++) {
                     int index = level * MOST_VALUES + place;
@@ -783,7 +783,7 @@ public final class DoubledRows {
         void addWord(int word) {
             for (int shift = 24; shift >= 0; shift -= 8) {
                 if (size >= 0 && size < text.length) {
-                    text[size] = word >>> shift & 255;
+                    text[size] = (word >>> shift) & 255;
                     size++;
                 }
             }
