@@ -1,14 +1,5 @@
-import java.util.NoSuchElementException;
-
 /** Each promise of the document: ordinary inputs, the edges that it names, and wrong inputs. */
 public final class PromisesTest {
-    private static final Class<IllegalArgumentException> ARGUMENT = IllegalArgumentException.class;
-    private static final Class<IndexOutOfBoundsException> BOUNDS = IndexOutOfBoundsException.class;
-    private static final Class<IllegalStateException> STATE = IllegalStateException.class;
-    private static final Class<NoSuchElementException> NO_ELEMENT = NoSuchElementException.class;
-    private static final int LEAST_INT = Integer.MIN_VALUE;
-    private static final int GREATEST_INT = Integer.MAX_VALUE;
-
     private PromisesTest() {
     }
 
@@ -51,44 +42,6 @@ public final class PromisesTest {
         Check.end();
     }
 
-    /** So many values, the first of them 1, the next 2, and so on. */
-    private static DoubledRows rising(int rule, int count) {
-        StringBuilder text = new StringBuilder("row " + rule + " 2:");
-        for (int value = 1; value <= count; value++) {
-            text.append(value).append(' ');
-        }
-        return Check.loaded(text.append(';').toString());
-    }
-
-    private static void states(String when, DoubledRows x, int... due) {
-        for (int what = 0; what < due.length; what++) {
-            Check.same(when + ": state(" + what + ")", x.state(what), due[what]);
-        }
-    }
-
-    private static void values(String when, DoubledRows x, int... due) {
-        Check.same(when + ": values", x.state(0), due.length);
-        for (int place = 0; place < due.length; place++) {
-            Check.same(when + ": value(" + place + ")", x.value(place), due[place]);
-        }
-    }
-
-    private static void keptOnes(String when, DoubledRows x, int... due) {
-        Check.same(when + ": kept stretches", x.state(6), due.length);
-        for (int k = 0; k < due.length; k++) {
-            Check.same(when + ": kept(" + k + ")", x.kept(k), due[k]);
-        }
-    }
-
-    private static void cells(String when, DoubledRows x, int level, int... due) {
-        for (int place = 0; place < due.length; place++) {
-            Check.same(when + ": cell(" + level + ", " + place + ")", x.cell(level, place), due[place]);
-        }
-        if (due.length < x.state(0)) {
-            Check.raises(when + ": one cell more", NO_ELEMENT, () -> x.cell(level, due.length));
-        }
-    }
-
     private static void constants() {
         Check.same("SYNTAX_ERROR", DoubledRows.SYNTAX_ERROR, -2);
         Check.same("OUT_OF_RANGE", DoubledRows.OUT_OF_RANGE, -3);
@@ -98,11 +51,11 @@ public final class PromisesTest {
 
     private static void promise1NewObject() {
         DoubledRows x = new DoubledRows();
-        states("new", x, 1, 0, 2, 1, 0, 0, 0, 0, 0, 0, 1);
-        values("new", x, 0);
+        Check.states("new", x, 1, 0, 2, 1, 0, 0, 0, 0, 0, 0, 1);
+        Check.values("new", x, 0);
         Check.same("errorOffset() when new", x.errorOffset(), -1);
         Check.same("undo() when new", x.undo(), -1);
-        Check.raises("load(1) when new", ARGUMENT, () -> x.load(1));
+        Check.raises("load(1) when new", Check.ARGUMENT, () -> x.load(1));
         Check.same("as by the text", x.checksum(), Check.loaded("row 0 2:0;").checksum());
     }
 
@@ -110,7 +63,7 @@ public final class PromisesTest {
         DoubledRows x = new DoubledRows();
         Check.same("append", x.append(0x726f7720, 0x30203220, 0x3a2d3120, 0x32203320, 0x343b2020), 20);
         Check.same("append's bytes", x.load(20), 4);
-        values("append's bytes", x, -1, 2, 3, 4);
+        Check.values("append's bytes", x, -1, 2, 3, 4);
         for (int bytes = 20; bytes <= 500; bytes += 20) {
             Check.same("append up to 500", x.append(0x20202020, 0x20202020, 0x20202020, 0x20202020, 0x20202020), bytes);
         }
@@ -126,27 +79,27 @@ public final class PromisesTest {
     private static void promise3Load() {
         DoubledRows x = new DoubledRows();
         Check.same("load", Check.load(x, "row 2 3:7 -7 0;keep 0 2;ask 1 2;set 1 5;put 0 9;take 3;"), 3);
-        values("load", x, 9, 7, 5);
+        Check.values("load", x, 9, 7, 5);
         // 2 cells behind the values, 4 behind put, 2 behind take.
-        states("load", x, 3, 2, 3, 2, 2, 0, 1, 1, 2 + 4 + 2, 1, 3);
-        keptOnes("load", x, 102);
+        Check.states("load", x, 3, 2, 3, 2, 2, 0, 1, 1, 2 + 4 + 2, 1, 3);
+        Check.keptOnes("load", x, 102);
         Check.same("load empties the buffer", Check.answer(() -> x.load(0)), "-2");
         Check.fill(x, "row 0 1:1 2 3;");
         long before = x.checksum();
-        Check.raises("load(-1)", ARGUMENT, () -> x.load(-1));
-        Check.raises("load(least)", ARGUMENT, () -> x.load(LEAST_INT));
-        Check.raises("load(21)", ARGUMENT, () -> x.load(21));
+        Check.raises("load(-1)", Check.ARGUMENT, () -> x.load(-1));
+        Check.raises("load(least)", Check.ARGUMENT, () -> x.load(Check.LEAST_INT));
+        Check.raises("load(21)", Check.ARGUMENT, () -> x.load(21));
         Check.same("a load that throws leaves the data", x.checksum(), before);
         Check.same("a load that throws leaves the buffer", x.load(14), 3);
-        Check.raises("load empties it behind length, too", ARGUMENT, () -> x.load(1));
+        Check.raises("load empties it behind length, too", Check.ARGUMENT, () -> x.load(1));
         before = x.checksum();
         Check.same("a text with an error", Check.load(x, "row 1 1:5 5;set 0 0;set 9 9;"), -3);
         Check.same("a text with an error leaves the data", x.checksum(), before);
-        Check.raises("a text with an error empties the buffer", ARGUMENT, () -> x.load(1));
+        Check.raises("a text with an error empties the buffer", Check.ARGUMENT, () -> x.load(1));
         Check.same("a part of a text", loadPart(x, "row 0 1:1 2 3;set 0 9;", 14), 3);
         Check.same("a part of a text: value(0)", x.value(0), 1);
         Check.same("a prefix that ends early", loadPart(x, "row 0 1:1 2 3;", 13), -2);
-        Check.same("40 values", rising(0, 40).state(0), 40);
+        Check.same("40 values", Check.rising(0, 40).state(0), 40);
     }
 
     private static int loadPart(DoubledRows x, String text, int length) {
@@ -158,7 +111,7 @@ public final class PromisesTest {
         DoubledRows x = new DoubledRows();
         Check.load(x, "row 3 1:1;");
         Check.same("errorOffset() behind an error", x.errorOffset(), 4);
-        Check.raises("load(1)", ARGUMENT, () -> x.load(1));
+        Check.raises("load(1)", Check.ARGUMENT, () -> x.load(1));
         Check.same("errorOffset() behind a load that throws", x.errorOffset(), 4);
         x.undo();
         x.set(0, 1);
@@ -175,54 +128,54 @@ public final class PromisesTest {
     private static void promise5State() {
         int[] levels = {1, 2, 2, 3, 3, 3, 3, 4, 4, 4, 4, 4, 4, 4, 4, 5};
         for (int n = 1; n <= levels.length; n++) {
-            Check.same("levels of " + n, rising(0, n).state(3), levels[n - 1]);
+            Check.same("levels of " + n, Check.rising(0, n).state(3), levels[n - 1]);
         }
-        Check.same("levels of 31", rising(0, 31).state(3), 5);
-        Check.same("levels of 32", rising(0, 32).state(3), 6);
-        states("40 values", rising(1, 40), 40, 1, 2, 6, 39 + 37 + 33 + 25 + 9, 0, 0, 0, 143, 0, 1);
+        Check.same("levels of 31", Check.rising(0, 31).state(3), 5);
+        Check.same("levels of 32", Check.rising(0, 32).state(3), 6);
+        Check.states("40 values", Check.rising(1, 40), 40, 1, 2, 6, 39 + 37 + 33 + 25 + 9, 0, 0, 0, 143, 0, 1);
         DoubledRows x = Check.loaded("row 0 7:3 1 2;keep 0 1;");
         x.set(0, 5);
         x.set(2, 5);
-        states("places that wait", x, 3, 0, 7, 2, 2, 2, 1, 0, 2, 0, 1);
+        Check.states("places that wait", x, 3, 0, 7, 2, 2, 2, 1, 0, 2, 0, 1);
         x.ask(0, 2);
-        states("behind a question", x, 3, 0, 7, 2, 2, 0, 1, 2, 4, 1, 2);
-        Check.raises("state(-1)", ARGUMENT, () -> x.state(-1));
-        Check.raises("state(11)", ARGUMENT, () -> x.state(11));
-        Check.raises("state(greatest)", ARGUMENT, () -> x.state(GREATEST_INT));
+        Check.states("behind a question", x, 3, 0, 7, 2, 2, 0, 1, 2, 4, 1, 2);
+        Check.raises("state(-1)", Check.ARGUMENT, () -> x.state(-1));
+        Check.raises("state(11)", Check.ARGUMENT, () -> x.state(11));
+        Check.raises("state(greatest)", Check.ARGUMENT, () -> x.state(Check.GREATEST_INT));
         Check.load(x, "row 1 3:1 2;keep 0 1;ask 0 1;set 0 0;set 1 1;put 0 0;");
-        states("counted in a text", x, 3, 1, 3, 2, 2, 0, 1, 1, 1 + 1 + 1 + 2, 1, 2);
+        Check.states("counted in a text", x, 3, 1, 3, 2, 2, 0, 1, 1, 1 + 1 + 1 + 2, 1, 2);
         Check.load(x, "row 0 1:1;");
-        states("counted since the latest load", x, 1, 0, 1, 1, 0, 0, 0, 0, 0, 0, 1);
+        Check.states("counted since the latest load", x, 1, 0, 1, 1, 0, 0, 0, 0, 0, 0, 1);
     }
 
     private static void promise6Value() {
         DoubledRows x = Check.loaded("row 0 1:-999 999;");
-        values("value", x, -999, 999);
-        Check.raises("value(-1)", BOUNDS, () -> x.value(-1));
-        Check.raises("value(2)", BOUNDS, () -> x.value(2));
-        Check.raises("value(least)", BOUNDS, () -> x.value(LEAST_INT));
+        Check.values("value", x, -999, 999);
+        Check.raises("value(-1)", Check.BOUNDS, () -> x.value(-1));
+        Check.raises("value(2)", Check.BOUNDS, () -> x.value(2));
+        Check.raises("value(least)", Check.BOUNDS, () -> x.value(Check.LEAST_INT));
     }
 
     private static void promise7Cell() {
         DoubledRows x = Check.loaded("row 0 8:4 4 6 1 1 9 1 0;");
-        cells("cell", x, 0, 0, 1, 2, 3, 4, 5, 6, 7);
-        cells("cell", x, 1, 0, 1, 3, 3, 4, 6, 7);
-        cells("cell", x, 2, 3, 3, 3, 3, 7);
-        cells("cell", x, 3, 7);
-        Check.raises("cell(4, 0)", NO_ELEMENT, () -> x.cell(4, 0));
-        Check.raises("cell(-1, 0)", NO_ELEMENT, () -> x.cell(-1, 0));
-        Check.raises("cell(32, 0)", NO_ELEMENT, () -> x.cell(32, 0));
-        Check.raises("cell(33, 0)", NO_ELEMENT, () -> x.cell(33, 0));
-        Check.raises("cell(greatest, 0)", NO_ELEMENT, () -> x.cell(GREATEST_INT, 0));
-        Check.raises("cell(least, 0)", NO_ELEMENT, () -> x.cell(LEAST_INT, 0));
-        Check.raises("cell(0, 8)", BOUNDS, () -> x.cell(0, 8));
-        Check.raises("cell(-1, -1): the place first", BOUNDS, () -> x.cell(-1, -1));
+        Check.cells("cell", x, 0, 0, 1, 2, 3, 4, 5, 6, 7);
+        Check.cells("cell", x, 1, 0, 1, 3, 3, 4, 6, 7);
+        Check.cells("cell", x, 2, 3, 3, 3, 3, 7);
+        Check.cells("cell", x, 3, 7);
+        Check.raises("cell(4, 0)", Check.NO_ELEMENT, () -> x.cell(4, 0));
+        Check.raises("cell(-1, 0)", Check.NO_ELEMENT, () -> x.cell(-1, 0));
+        Check.raises("cell(32, 0)", Check.NO_ELEMENT, () -> x.cell(32, 0));
+        Check.raises("cell(33, 0)", Check.NO_ELEMENT, () -> x.cell(33, 0));
+        Check.raises("cell(greatest, 0)", Check.NO_ELEMENT, () -> x.cell(Check.GREATEST_INT, 0));
+        Check.raises("cell(least, 0)", Check.NO_ELEMENT, () -> x.cell(Check.LEAST_INT, 0));
+        Check.raises("cell(0, 8)", Check.BOUNDS, () -> x.cell(0, 8));
+        Check.raises("cell(-1, -1): the place first", Check.BOUNDS, () -> x.cell(-1, -1));
         x.set(7, 5);
         x.set(2, -5);
-        cells("as they were written last", x, 1, 0, 1, 3, 3, 4, 6, 7);
+        Check.cells("as they were written last", x, 1, 0, 1, 3, 3, 4, 6, 7);
         x.ask(0, 0);
-        cells("written anew", x, 1, 0, 2, 2, 3, 4, 6, 6);
-        cells("written anew", x, 3, 2);
+        Check.cells("written anew", x, 1, 0, 2, 2, 3, 4, 6, 6);
+        Check.cells("written anew", x, 3, 2);
     }
 
     private static void promise8Waits() {
@@ -230,11 +183,11 @@ public final class PromisesTest {
         x.set(1, 2);
         Check.same("waits(0)", x.waits(0), (Object) false);
         Check.same("waits(1), set to what it was", x.waits(1), (Object) true);
-        Check.raises("waits(-1)", BOUNDS, () -> x.waits(-1));
-        Check.raises("waits(3)", BOUNDS, () -> x.waits(3));
+        Check.raises("waits(-1)", Check.BOUNDS, () -> x.waits(-1));
+        Check.raises("waits(3)", Check.BOUNDS, () -> x.waits(3));
         x.ask(0, 0);
         Check.same("waits(1) behind a question", x.waits(1), (Object) false);
-        DoubledRows long40 = rising(2, 40);
+        DoubledRows long40 = Check.rising(2, 40);
         long40.set(39, 5);
         long40.set(32, 5);
         Check.same("waits(39)", long40.waits(39), (Object) true);
@@ -265,17 +218,17 @@ public final class PromisesTest {
     }
 
     private static void wrongStretches(String name, OfStretch method, int n) {
-        Check.raises(name + "(-1, 0)", BOUNDS, () -> method.call(-1, 0));
-        Check.raises(name + "(0, n)", BOUNDS, () -> method.call(0, n));
-        Check.raises(name + "(n, n)", BOUNDS, () -> method.call(n, n));
-        Check.raises(name + "(n, 0): the places first", BOUNDS, () -> method.call(n, 0));
-        Check.raises(name + "(0, -1): the places first", BOUNDS, () -> method.call(0, -1));
-        Check.raises(name + "(least, greatest)", BOUNDS, () -> method.call(LEAST_INT, GREATEST_INT));
-        Check.raises(name + "(1, 0)", ARGUMENT, () -> method.call(1, 0));
+        Check.raises(name + "(-1, 0)", Check.BOUNDS, () -> method.call(-1, 0));
+        Check.raises(name + "(0, n)", Check.BOUNDS, () -> method.call(0, n));
+        Check.raises(name + "(n, n)", Check.BOUNDS, () -> method.call(n, n));
+        Check.raises(name + "(n, 0): the places first", Check.BOUNDS, () -> method.call(n, 0));
+        Check.raises(name + "(0, -1): the places first", Check.BOUNDS, () -> method.call(0, -1));
+        Check.raises(name + "(least, greatest)", Check.BOUNDS, () -> method.call(Check.LEAST_INT, Check.GREATEST_INT));
+        Check.raises(name + "(1, 0)", Check.ARGUMENT, () -> method.call(1, 0));
     }
 
     private static void promise10Looks() {
-        DoubledRows x = rising(2, 40);
+        DoubledRows x = Check.rising(2, 40);
         for (int n = 1; n <= 40; n++) {
             boolean oneLook = n == 1 || n == 2 || n == 4 || n == 8 || n == 16 || n == 32;
             Check.same("looks of " + n, x.looks(0, n - 1), oneLook ? 1 : 2);
@@ -298,7 +251,7 @@ public final class PromisesTest {
     }
 
     private static void promise11Writes() {
-        DoubledRows x = rising(0, 5);
+        DoubledRows x = Check.rising(0, 5);
         Check.same("writes() if none waits", x.writes(), 0);
         x.set(0, 0);
         Check.same("writes() if one waits", x.writes(), 4 + 2);
@@ -313,16 +266,16 @@ public final class PromisesTest {
     }
 
     private static void promise12Above() {
-        DoubledRows x = rising(0, 9);
+        DoubledRows x = Check.rising(0, 9);
         int[] due = {3, 2 + 2 + 2, 2 + 3 + 2, 2 + 4 + 2, 2 + 4 + 2, 2 + 4 + 2, 2 + 3 + 2, 2 + 2 + 2, 3};
         for (int place = 0; place < due.length; place++) {
             Check.same("above(" + place + ") of 9", x.above(place), due[place]);
         }
-        Check.same("above(20) of 40", rising(0, 40).above(20), 2 + 4 + 8 + 16 + 9);
-        Check.same("above(0) of 40", rising(0, 40).above(0), 5);
+        Check.same("above(20) of 40", Check.rising(0, 40).above(20), 2 + 4 + 8 + 16 + 9);
+        Check.same("above(0) of 40", Check.rising(0, 40).above(0), 5);
         Check.same("above(0) of 1", new DoubledRows().above(0), 0);
-        Check.raises("above(-1)", BOUNDS, () -> x.above(-1));
-        Check.raises("above(9)", BOUNDS, () -> x.above(9));
+        Check.raises("above(-1)", Check.BOUNDS, () -> x.above(-1));
+        Check.raises("above(9)", Check.BOUNDS, () -> x.above(9));
     }
 
     private static void promise13LessBehind() {
@@ -333,8 +286,8 @@ public final class PromisesTest {
         }
         x.set(5, -5);
         Check.same("lessBehind(4) with one that waits", x.lessBehind(4), 5);
-        Check.raises("lessBehind(-1)", BOUNDS, () -> x.lessBehind(-1));
-        Check.raises("lessBehind(6)", BOUNDS, () -> x.lessBehind(6));
+        Check.raises("lessBehind(-1)", Check.BOUNDS, () -> x.lessBehind(-1));
+        Check.raises("lessBehind(6)", Check.BOUNDS, () -> x.lessBehind(6));
     }
 
     private static void promise14Rules() {
@@ -348,8 +301,8 @@ public final class PromisesTest {
         Check.same("rules(2) of equal ones", same.rules(2), 1);
         x.set(4, 9);
         Check.same("rules(4) with one that waits", x.rules(4), 1);
-        Check.raises("rules(-1)", BOUNDS, () -> x.rules(-1));
-        Check.raises("rules(5)", BOUNDS, () -> x.rules(5));
+        Check.raises("rules(-1)", Check.BOUNDS, () -> x.rules(-1));
+        Check.raises("rules(5)", Check.BOUNDS, () -> x.rules(5));
     }
 
     private static void promise15Sum() {
@@ -363,14 +316,14 @@ public final class PromisesTest {
     }
 
     private static void promise16Kept() {
-        DoubledRows x = rising(0, 40);
-        Check.raises("kept(0) of none", NO_ELEMENT, () -> x.kept(0));
+        DoubledRows x = Check.rising(0, 40);
+        Check.raises("kept(0) of none", Check.NO_ELEMENT, () -> x.kept(0));
         x.keep(39, 39);
         x.keep(0, 39);
         x.keep(0, 39);
-        keptOnes("kept", x, 3939, 39, 39);
-        Check.raises("kept(-1)", NO_ELEMENT, () -> x.kept(-1));
-        Check.raises("kept(3)", NO_ELEMENT, () -> x.kept(3));
+        Check.keptOnes("kept", x, 3939, 39, 39);
+        Check.raises("kept(-1)", Check.NO_ELEMENT, () -> x.kept(-1));
+        Check.raises("kept(3)", Check.NO_ELEMENT, () -> x.kept(3));
     }
 
     private static void promise17LooksOfKept() {
@@ -406,8 +359,8 @@ public final class PromisesTest {
         one.rule(2, 1);
         Check.same("bestRule(0) if no place waited", one.bestRule(0), 1);
         Check.same("nothing is set or asked", one.state(5) * 1000 + one.state(9), 1000);
-        Check.raises("bestRule(-1)", BOUNDS, () -> one.bestRule(-1));
-        Check.raises("bestRule(4)", BOUNDS, () -> one.bestRule(4));
+        Check.raises("bestRule(-1)", Check.BOUNDS, () -> one.bestRule(-1));
+        Check.raises("bestRule(4)", Check.BOUNDS, () -> one.bestRule(4));
         // By rule 1 2 cells and 1 look, by rule 2 3 looks.
         one.forget(0);
         one.forget(0);
@@ -422,9 +375,9 @@ public final class PromisesTest {
         }
         x.set(2, -9);
         Check.same("ranked(0) with one that waits", x.ranked(0), 2);
-        Check.raises("ranked(-1)", NO_ELEMENT, () -> x.ranked(-1));
-        Check.raises("ranked(5)", NO_ELEMENT, () -> x.ranked(5));
-        Check.raises("ranked(greatest)", NO_ELEMENT, () -> x.ranked(GREATEST_INT));
+        Check.raises("ranked(-1)", Check.NO_ELEMENT, () -> x.ranked(-1));
+        Check.raises("ranked(5)", Check.NO_ELEMENT, () -> x.ranked(5));
+        Check.raises("ranked(greatest)", Check.NO_ELEMENT, () -> x.ranked(Check.GREATEST_INT));
     }
 
     private static void promise20Gap() {
@@ -442,7 +395,7 @@ public final class PromisesTest {
     }
 
     private static void promise21CostOfOne() {
-        DoubledRows x = rising(1, 3);
+        DoubledRows x = Check.rising(1, 3);
         Check.same("costOfOne() without questions", x.costOfOne(), (Object) 0f);
         x.ask(0, 2);
         Check.same("costOfOne() of 1", x.costOfOne(), (Object) 4f);
@@ -466,18 +419,18 @@ public final class PromisesTest {
         Check.same("set(0, 999)", x.set(0, 999), -999);
         Check.same("set(0, 999) again", x.set(0, 999), 999);
         Check.same("set(3, 5)", x.set(3, 5), 1);
-        states("set by rule 0", x, 4, 0, 1, 3, 4, 2, 0, 0, 4, 0, 1);
-        Check.raises("set(4, 0)", BOUNDS, () -> x.set(4, 0));
-        Check.raises("set(-1, 0)", BOUNDS, () -> x.set(-1, 0));
-        Check.raises("set(4, 1000): the place first", BOUNDS, () -> x.set(4, 1000));
-        Check.raises("set(0, 1000)", ARGUMENT, () -> x.set(0, 1000));
-        Check.raises("set(0, -1000)", ARGUMENT, () -> x.set(0, -1000));
-        Check.raises("set(0, least)", ARGUMENT, () -> x.set(0, LEAST_INT));
+        Check.states("set by rule 0", x, 4, 0, 1, 3, 4, 2, 0, 0, 4, 0, 1);
+        Check.raises("set(4, 0)", Check.BOUNDS, () -> x.set(4, 0));
+        Check.raises("set(-1, 0)", Check.BOUNDS, () -> x.set(-1, 0));
+        Check.raises("set(4, 1000): the place first", Check.BOUNDS, () -> x.set(4, 1000));
+        Check.raises("set(0, 1000)", Check.ARGUMENT, () -> x.set(0, 1000));
+        Check.raises("set(0, -1000)", Check.ARGUMENT, () -> x.set(0, -1000));
+        Check.raises("set(0, least)", Check.ARGUMENT, () -> x.set(0, Check.LEAST_INT));
         DoubledRows atOnce = Check.loaded("row 1 1:4 3 2 1 0;");
         Check.same("set(1, -4) by rule 1", atOnce.set(1, -4), 3);
-        states("set by rule 1", atOnce, 5, 1, 1, 3, 6, 0, 0, 0, 6 + 2 + 2, 0, 1);
-        cells("set by rule 1", atOnce, 1, 1, 1, 3, 4);
-        cells("set by rule 1", atOnce, 2, 1, 1);
+        Check.states("set by rule 1", atOnce, 5, 1, 1, 3, 6, 0, 0, 0, 6 + 2 + 2, 0, 1);
+        Check.cells("set by rule 1", atOnce, 1, 1, 1, 3, 4);
+        Check.cells("set by rule 1", atOnce, 2, 1, 1);
         atOnce.set(1, -4);
         Check.same("set to what it is writes too", atOnce.state(8), 14);
     }
@@ -487,12 +440,12 @@ public final class PromisesTest {
         x.set(1, -4);
         x.set(1, -5);
         x.set(2, -4);
-        states("most wait", x, 5, 2, 2, 3, 6, 2, 0, 0, 6, 0, 1);
+        Check.states("most wait", x, 5, 2, 2, 3, 6, 2, 0, 0, 6, 0, 1);
         x.set(2, -4);
         Check.same("a place that waits waits once", x.state(5), 2);
         x.set(4, 7);
-        states("more than most wait", x, 5, 2, 2, 3, 6, 0, 0, 0, 12, 0, 2);
-        cells("built", x, 1, 1, 1, 2, 3);
+        Check.states("more than most wait", x, 5, 2, 2, 3, 6, 0, 0, 0, 12, 0, 2);
+        Check.cells("built", x, 1, 1, 1, 2, 3);
         x.set(0, 0);
         x.set(1, 0);
         x.rule(2, 1);
@@ -511,18 +464,18 @@ public final class PromisesTest {
     private static void promise23Ask() {
         DoubledRows x = Check.loaded("row 0 1:4 3 2 1 1 2;");
         Check.same("ask(0, 5): the leftmost", x.ask(0, 5), 3);
-        states("ask", x, 6, 0, 1, 3, 8, 0, 0, 2, 8, 1, 1);
+        Check.states("ask", x, 6, 0, 1, 3, 8, 0, 0, 2, 8, 1, 1);
         x.set(3, 9);
         Check.same("ask(0, 5) behind set", x.ask(0, 5), 4);
-        states("ask builds first", x, 6, 0, 1, 3, 8, 0, 0, 4, 16, 2, 2);
+        Check.states("ask builds first", x, 6, 0, 1, 3, 8, 0, 0, 4, 16, 2, 2);
         x.set(0, 0);
         Check.same("ask(5, 5), the one that waits not in it", x.ask(5, 5), 5);
-        states("ask builds all the same", x, 6, 0, 1, 3, 8, 0, 0, 5, 24, 3, 3);
+        Check.states("ask builds all the same", x, 6, 0, 1, 3, 8, 0, 0, 5, 24, 3, 3);
         DoubledRows waiting = Check.loaded("row 2 8:4 3 2 1 1 2;");
         waiting.set(4, 0);
         waiting.set(2, 0);
         Check.same("ask by rule 2", waiting.ask(0, 5), 2);
-        states("ask by rule 2", waiting, 6, 2, 8, 3, 8, 2, 0, 1 + 1 + 1 + 1 + 1, 8, 1, 1);
+        Check.states("ask by rule 2", waiting, 6, 2, 8, 3, 8, 2, 0, 1 + 1 + 1 + 1 + 1, 8, 1, 1);
         waiting.set(2, 5);
         waiting.set(4, 5);
         Check.same("ask does not tell the old ones", waiting.ask(0, 5), 3);
@@ -540,8 +493,8 @@ public final class PromisesTest {
         for (int kept = 1; kept <= 8; kept++) {
             Check.same("keep", x.keep(kept % 2, 1), kept);
         }
-        keptOnes("keep", x, 101, 1, 101, 1, 101, 1, 101, 1);
-        Check.raises("a 9th", STATE, () -> x.keep(0, 0));
+        Check.keptOnes("keep", x, 101, 1, 101, 1, 101, 1, 101, 1);
+        Check.raises("a 9th", Check.STATE, () -> x.keep(0, 0));
         wrongStretches("keep", x::keep, 2);
         Check.same("keep asks nothing", x.state(9) + x.state(7), 0);
     }
@@ -549,72 +502,72 @@ public final class PromisesTest {
     private static void promise25Forget() {
         DoubledRows x = Check.loaded("row 0 1:4 3 2;keep 0 0;keep 1 1;keep 2 2;keep 0 2;");
         Check.same("forget(1)", x.forget(1), 3);
-        keptOnes("forget(1)", x, 0, 202, 2);
+        Check.keptOnes("forget(1)", x, 0, 202, 2);
         Check.same("forget(2)", x.forget(2), 2);
         Check.same("forget(0)", x.forget(0), 1);
-        keptOnes("forget(0)", x, 202);
-        Check.raises("forget(1) of 1", NO_ELEMENT, () -> x.forget(1));
-        Check.raises("forget(-1)", NO_ELEMENT, () -> x.forget(-1));
+        Check.keptOnes("forget(0)", x, 202);
+        Check.raises("forget(1) of 1", Check.NO_ELEMENT, () -> x.forget(1));
+        Check.raises("forget(-1)", Check.NO_ELEMENT, () -> x.forget(-1));
         Check.same("forget(0)", x.forget(0), 0);
-        Check.raises("forget(0) of none", NO_ELEMENT, () -> x.forget(0));
+        Check.raises("forget(0) of none", Check.NO_ELEMENT, () -> x.forget(0));
     }
 
     private static void promise26Sweep() {
         DoubledRows x = Check.loaded("row 0 1:4 3 2 7;keep 0 0;keep 1 2;keep 0 1;keep 2 3;keep 3 3;");
         x.set(3, 9);
         Check.same("sweep(3)", x.sweep(3), 2);
-        keptOnes("sweep(3)", x, 0, 1, 303);
-        states("sweep(3)", x, 4, 0, 1, 3, 4, 0, 3, 5, 8, 5, 2);
+        Check.keptOnes("sweep(3)", x, 0, 1, 303);
+        Check.states("sweep(3)", x, 4, 0, 1, 3, 4, 0, 3, 5, 8, 5, 2);
         Check.same("sweep(3) again", x.sweep(3), 0);
         Check.same("sweep(1000)", x.sweep(1000), 3);
         x.set(0, 0);
         Check.same("sweep(-999) of none", x.sweep(-999), 0);
         Check.same("nothing is built without a question", x.state(5), 1);
-        Check.raises("sweep(-1000)", ARGUMENT, () -> x.sweep(-1000));
-        Check.raises("sweep(1001)", ARGUMENT, () -> x.sweep(1001));
-        Check.raises("sweep(least)", ARGUMENT, () -> x.sweep(LEAST_INT));
+        Check.raises("sweep(-1000)", Check.ARGUMENT, () -> x.sweep(-1000));
+        Check.raises("sweep(1001)", Check.ARGUMENT, () -> x.sweep(1001));
+        Check.raises("sweep(least)", Check.ARGUMENT, () -> x.sweep(Check.LEAST_INT));
     }
 
     private static void promise27Put() {
         DoubledRows x = Check.loaded("row 0 1:4 3 2;keep 0 1;keep 1 1;keep 1 2;keep 2 2;");
         x.set(0, 5);
         Check.same("put(1, 9)", x.put(1, 9), 4);
-        values("put(1, 9)", x, 5, 9, 3, 2);
-        keptOnes("put(1, 9)", x, 2, 202, 203, 303);
-        states("put(1, 9)", x, 4, 0, 1, 3, 4, 0, 4, 0, 2 + 4, 0, 2);
+        Check.values("put(1, 9)", x, 5, 9, 3, 2);
+        Check.keptOnes("put(1, 9)", x, 2, 202, 203, 303);
+        Check.states("put(1, 9)", x, 4, 0, 1, 3, 4, 0, 4, 0, 2 + 4, 0, 2);
         Check.same("put(4, -999) at the end", x.put(4, -999), 5);
-        keptOnes("put(4, -999)", x, 2, 202, 203, 303);
+        Check.keptOnes("put(4, -999)", x, 2, 202, 203, 303);
         Check.same("put(0, 999)", x.put(0, 999), 6);
-        keptOnes("put(0, 999)", x, 103, 303, 304, 404);
-        values("put(0, 999)", x, 999, 5, 9, 3, 2, -999);
-        cells("put(0, 999)", x, 1, 1, 1, 3, 4, 5);
-        Check.raises("put(7, 0)", BOUNDS, () -> x.put(7, 0));
-        Check.raises("put(-1, 0)", BOUNDS, () -> x.put(-1, 0));
-        Check.raises("put(7, 1000): the place first", BOUNDS, () -> x.put(7, 1000));
-        Check.raises("put(0, 1000)", ARGUMENT, () -> x.put(0, 1000));
-        Check.raises("put(0, -1000)", ARGUMENT, () -> x.put(0, -1000));
-        DoubledRows full = rising(0, 39);
+        Check.keptOnes("put(0, 999)", x, 103, 303, 304, 404);
+        Check.values("put(0, 999)", x, 999, 5, 9, 3, 2, -999);
+        Check.cells("put(0, 999)", x, 1, 1, 1, 3, 4, 5);
+        Check.raises("put(7, 0)", Check.BOUNDS, () -> x.put(7, 0));
+        Check.raises("put(-1, 0)", Check.BOUNDS, () -> x.put(-1, 0));
+        Check.raises("put(7, 1000): the place first", Check.BOUNDS, () -> x.put(7, 1000));
+        Check.raises("put(0, 1000)", Check.ARGUMENT, () -> x.put(0, 1000));
+        Check.raises("put(0, -1000)", Check.ARGUMENT, () -> x.put(0, -1000));
+        DoubledRows full = Check.rising(0, 39);
         Check.same("put a 40th", full.put(39, 0), 40);
-        Check.raises("put a 41st", STATE, () -> full.put(0, 0));
-        Check.raises("put a 41st at the end", STATE, () -> full.put(40, 0));
-        Check.raises("put(41, 0)", BOUNDS, () -> full.put(41, 0));
-        Check.raises("put(40, 1000): the value first", ARGUMENT, () -> full.put(40, 1000));
+        Check.raises("put a 41st", Check.STATE, () -> full.put(0, 0));
+        Check.raises("put a 41st at the end", Check.STATE, () -> full.put(40, 0));
+        Check.raises("put(41, 0)", Check.BOUNDS, () -> full.put(41, 0));
+        Check.raises("put(40, 1000): the value first", Check.ARGUMENT, () -> full.put(40, 1000));
     }
 
     private static void promise28Take() {
         DoubledRows x = Check.loaded("row 2 8:4 3 2 1;keep 0 1;keep 1 1;keep 1 2;keep 2 3;keep 1 1;keep 0 0;");
         x.set(3, 6);
         Check.same("take(1)", x.take(1), 3);
-        values("take(1)", x, 4, 2, 6);
-        keptOnes("take(1)", x, 0, 101, 102, 0);
-        states("take(1)", x, 3, 2, 8, 2, 2, 0, 4, 0, 4 + 2, 0, 2);
+        Check.values("take(1)", x, 4, 2, 6);
+        Check.keptOnes("take(1)", x, 0, 101, 102, 0);
+        Check.states("take(1)", x, 3, 2, 8, 2, 2, 0, 4, 0, 4 + 2, 0, 2);
         Check.same("take(2)", x.take(2), 6);
-        keptOnes("take(2)", x, 0, 101, 101, 0);
+        Check.keptOnes("take(2)", x, 0, 101, 101, 0);
         Check.same("take(0)", x.take(0), 4);
-        keptOnes("take(0)", x, 0, 0);
-        Check.raises("take of the only one", STATE, () -> x.take(0));
-        Check.raises("take(1) of 1", BOUNDS, () -> x.take(1));
-        Check.raises("take(-1)", BOUNDS, () -> x.take(-1));
+        Check.keptOnes("take(0)", x, 0, 0);
+        Check.raises("take of the only one", Check.STATE, () -> x.take(0));
+        Check.raises("take(1) of 1", Check.BOUNDS, () -> x.take(1));
+        Check.raises("take(-1)", Check.BOUNDS, () -> x.take(-1));
     }
 
     private static void promise29Rule() {
@@ -622,15 +575,16 @@ public final class PromisesTest {
         x.set(0, 0);
         Check.same("rule(2, 8)", x.rule(2, 8), 3);
         Check.same("rule(2, 1)", x.rule(2, 1), 8);
-        states("most alone does nothing else", x, 3, 0, 1, 2, 2, 1, 0, 0, 2, 0, 1);
+        Check.states("most alone does nothing else", x, 3, 0, 1, 2, 2, 1, 0, 0, 2, 0, 1);
         Check.same("rule(1, 0)", x.rule(1, 0), 0);
-        states("the rule set to what it is builds", x, 3, 0, 1, 2, 2, 0, 0, 0, 4, 0, 2);
+        Check.states("the rule set to what it is builds", x, 3, 0, 1, 2, 2, 0, 0, 0, 4, 0, 2);
         Check.same("rule(1, 2)", x.rule(1, 2), 0);
         Check.same("rule(1, 1)", x.rule(1, 1), 2);
-        states("the rule set", x, 3, 1, 1, 2, 2, 0, 0, 0, 8, 0, 4);
-        int[][] wrong = {{0, 1}, {3, 1}, {-1, 1}, {1, -1}, {1, 3}, {2, 0}, {2, 9}, {LEAST_INT, 1}, {2, GREATEST_INT}};
+        Check.states("the rule set", x, 3, 1, 1, 2, 2, 0, 0, 0, 8, 0, 4);
+        int[][] wrong = {{0, 1}, {3, 1}, {-1, 1}, {1, -1}, {1, 3}, {2, 0}, {2, 9}, {Check.LEAST_INT, 1},
+            {2, Check.GREATEST_INT}};
         for (int[] w : wrong) {
-            Check.raises("rule(" + w[0] + ", " + w[1] + ")", ARGUMENT, () -> x.rule(w[0], w[1]));
+            Check.raises("rule(" + w[0] + ", " + w[1] + ")", Check.ARGUMENT, () -> x.rule(w[0], w[1]));
         }
         Check.same("a rule that throws changes nothing", x.state(10), 4);
     }
@@ -663,7 +617,7 @@ public final class PromisesTest {
     private static void promise30WhatUndoBringsBack() {
         DoubledRows x = Check.loaded("row 2 3:4 3 2 1;keep 0 3;keep 1 2;set 1 0;ask 0 3;");
         Check.same("undo() of load", x.undo(), 0);
-        states("undo() of load", x, 1, 0, 2, 1, 0, 0, 0, 0, 0, 0, 1);
+        Check.states("undo() of load", x, 1, 0, 2, 1, 0, 0, 0, 0, 0, 0, 1);
         Check.load(x, "row 2 3:4 3 2 1;keep 0 3;keep 1 2;set 1 0;ask 0 3;");
         eachChangeIsUndoneAlone(x);
         long[] sums = new long[8];
