@@ -15,6 +15,7 @@ public final class ChangeBoundariesTest {
         orderOfKept();
         putMovesStretches();
         takeMovesStretches();
+        takeFrom40();
         takeOfTheOnlyOtherPlace();
         whatIsAChange();
         changesThatLeaveAllAsItWas();
@@ -101,6 +102,14 @@ public final class ChangeBoundariesTest {
         }
         DoubledRows x = Check.loaded("row 0 1:5 5 5 5;keep 2 3;keep 0 1;keep 1 1;keep 1 2;keep 0 3;put 2 5;");
         Check.keptOnes("all in their order, each by itself", x, 304, 1, 101, 103, 4);
+        DoubledRows wide = Check.rising(0, 39);
+        wide.keep(0, 38);
+        wide.keep(38, 38);
+        wide.put(38, 0);
+        Check.keptOnes("the last place of 39", wide, 39, 3939);
+        wide.undo();
+        wide.put(39, 0);
+        Check.keptOnes("behind the last place of 39", wide, 38, 3838);
     }
 
     private static void takeMovesStretches() {
@@ -124,6 +133,22 @@ public final class ChangeBoundariesTest {
                 }
             }
         }
+    }
+
+    private static void takeFrom40() {
+        Check.sentence("If a value is taken out, stretches behind its place are 1 place further to the left,");
+        DoubledRows wide = Check.rising(0, 40);
+        wide.keep(0, 39);
+        wide.keep(39, 39);
+        wide.keep(38, 38);
+        wide.take(38);
+        Check.keptOnes("the last place but one of 40", wide, 38, 3838);
+        wide.undo();
+        wide.take(39);
+        Check.keptOnes("the last place of 40", wide, 38, 3838);
+        wide.undo();
+        wide.take(0);
+        Check.keptOnes("the first place of 40", wide, 38, 3838, 3737);
     }
 
     private static void takeOfTheOnlyOtherPlace() {

@@ -42,7 +42,8 @@ public final class LanguageTest {
         String text = Files.readString(DOCUMENT, StandardCharsets.UTF_8);
         String face = text.substring(text.indexOf("```java"), text.indexOf("## Terms"));
         Set<String> due = new TreeSet<>();
-        Matcher m = Pattern.compile("public (int|long|float|boolean) (\\w+)\\((.*?)\\)(?: throws (.*?))?;").matcher(face);
+        Pattern signature = Pattern.compile("public (int|long|float|boolean) (\\w+)\\((.*?)\\)(?: throws (.*?))?;");
+        Matcher m = signature.matcher(face);
         while (m.find()) {
             String parameters = m.group(3).replaceAll("(\\w+) \\w+", "$1").replace(" ", "");
             TreeSet<String> thrown = new TreeSet<>();
@@ -86,9 +87,10 @@ public final class LanguageTest {
             Check.same(method.getName() + " is public or private", fine, (Object) true);
         }
         for (Class<?> inside : DoubledRows.class.getDeclaredClasses()) {
-            boolean isClosed = !Modifier.isPublic(inside.getModifiers()) && !Modifier.isProtected(inside.getModifiers());
+            int inner = inside.getModifiers();
+            boolean isClosed = !Modifier.isPublic(inner) && !Modifier.isProtected(inner);
             Check.same(inside.getName() + " is closed", isClosed, (Object) true);
-            Check.same(inside.getName() + " is static", Modifier.isStatic(inside.getModifiers()), (Object) true);
+            Check.same(inside.getName() + " is static", Modifier.isStatic(inner), (Object) true);
             boolean isSmall = inside.getDeclaredFields().length <= 20;
             Check.same(inside.getName() + " has few fields", isSmall, (Object) true);
         }

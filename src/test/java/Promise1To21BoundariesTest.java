@@ -42,6 +42,7 @@ public final class Promise1To21BoundariesTest {
         keptThatIsNone();
         looksOfNoneKept();
         bestRuleOfSeveral();
+        bestRuleNextToAStretch();
         rankedOfSeveral();
         rankThatIsNone();
         gapIsZero();
@@ -180,7 +181,8 @@ public final class Promise1To21BoundariesTest {
 
     private static void loadEmptiesTheBuffer() {
         Check.sentence("The input buffer is empty afterwards, also if the text has an error.");
-        String[] texts = {"row 0 1:5;", "row 0 1:5", "row 3 1:5;", "row 0 1:5;take 0;", "", "row 0 1:5;" + "keep 0 0;".repeat(9)};
+        String[] texts = {"row 0 1:5;", "row 0 1:5", "row 3 1:5;", "row 0 1:5;take 0;", "",
+            "row 0 1:5;" + "keep 0 0;".repeat(9)};
         for (String text : texts) {
             DoubledRows x = new DoubledRows();
             Check.fill(x, text);
@@ -587,8 +589,9 @@ public final class Promise1To21BoundariesTest {
         Check.same("none is kept", Check.loaded(row).looksOfKept(), 0);
         Check.same("one is kept", Check.loaded(row + "keep 0 2;").looksOfKept(), 2);
         Check.same("eight are kept", Check.loaded(row + "keep 0 2;".repeat(8)).looksOfKept(), 16);
-        Check.same("all wait", Check.loaded(row + "keep 0 3;keep 3 3;set 0 1;set 1 1;set 2 1;set 3 1;").looksOfKept(), 5);
-        DoubledRows zero = Check.loaded("row 0 8:5 6 7 8;keep 0 3;keep 3 3;set 0 1;set 1 1;set 2 1;set 3 1;");
+        String allSet = "keep 0 3;keep 3 3;set 0 1;set 1 1;set 2 1;set 3 1;";
+        Check.same("all wait", Check.loaded(row + allSet).looksOfKept(), 5);
+        DoubledRows zero = Check.loaded("row 0 8:5 6 7 8;" + allSet);
         Check.same("all wait by rule 0: none behind the first question", zero.looksOfKept(), 2);
         Check.same("they still wait", zero.state(5), 4);
     }
@@ -608,6 +611,28 @@ public final class Promise1To21BoundariesTest {
         Check.same("rule 1 costs one less", Check.loaded("row 0 8:5 6 7 8;keep 0 3;keep 2 3;keep 0 1;").bestRule(0), 1);
         Check.raises("bestRule(-1)", Check.BOUNDS, () -> once.bestRule(-1));
         Check.raises("bestRule(4)", Check.BOUNDS, () -> once.bestRule(4));
+    }
+
+    private static void bestRuleNextToAStretch() {
+        Check.sentence("if no place waited now and the rule was this, a value was set at a place (to what it is), and"
+            + " all kept stretches were asked behind that, one after the other;");
+        // 3 looks at each of them if a place in it waits, otherwise 1; by rule 1 6 cells tell of its ends, and 7 of
+        // the places between these.
+        int[][] due = {{2, 2, 2, 2, 2, 2, 2, 2}, {2, 2, 1, 2, 2, 1, 2, 2}, {2, 2, 1, 1, 1, 1, 2, 2}};
+        String[] rows = {"row 0 1:", "row 1 1:", "row 2 1:", "row 2 8:"};
+        for (String row : rows) {
+            for (int kept = 2; kept <= 4; kept++) {
+                DoubledRows x = Check.loaded(row + "1 2 3 4 5 6 7 8;" + "keep 2 5;".repeat(kept) + "set 4 0;");
+                for (int place = 0; place < 8; place++) {
+                    String call = row + " bestRule(" + place + ") with " + kept + " kept";
+                    Check.same(call, x.bestRule(place), due[kept - 2][place]);
+                }
+            }
+        }
+        String three = "row 0 1:1 2 3;";
+        Check.same("one kept: 4, 4 and 3", Check.loaded(three + "keep 0 2;").bestRule(1), 2);
+        Check.same("two kept: 6, 6 and 6", Check.loaded(three + "keep 0 2;".repeat(2)).bestRule(1), 0);
+        Check.same("three kept: 8, 8 and 9", Check.loaded(three + "keep 0 2;".repeat(3)).bestRule(1), 0);
     }
 
     private static void rankedOfSeveral() {

@@ -294,7 +294,8 @@ public final class Promise22To31BoundariesTest {
             DoubledRows x = Check.rising(0, 39);
             Check.same("put(" + place + ", 0) into 39", x.put(place, 0), 40);
             Check.raises("put(" + place + ", 0) into 40", Check.STATE, () -> x.put(place, 0));
-            Check.refused("put(" + place + ", 0) into 40", Check.STATE, () -> Check.rising(1, 40), y -> y.put(place, 0));
+            Supplier<DoubledRows> full = () -> Check.rising(1, 40);
+            Check.refused("put(" + place + ", 0) into 40", Check.STATE, full, y -> y.put(place, 0));
         }
         Check.refused("put(40, 0) into 40", Check.STATE, () -> Check.rising(1, 40), y -> y.put(40, 0));
         Check.refused("put(41, 0) into 40", Check.BOUNDS, () -> Check.rising(1, 40), y -> y.put(41, 0));
@@ -368,7 +369,8 @@ public final class Promise22To31BoundariesTest {
         Check.sentence("@throws IllegalArgumentException if what or value is out of range");
         for (int what : new int[] {Check.LEAST_INT, -1, 0, 3, 4, Check.GREATEST_INT}) {
             for (int value : new int[] {-1, 0, 1, 2, 8}) {
-                Check.refused("rule(" + what + ", " + value + ")", Check.ARGUMENT, Check::busy, x -> x.rule(what, value));
+                String call = "rule(" + what + ", " + value + ")";
+                Check.refused(call, Check.ARGUMENT, Check::busy, x -> x.rule(what, value));
             }
         }
         for (int value : new int[] {Check.LEAST_INT, -2, -1, 3, 4, 8, Check.GREATEST_INT}) {
@@ -382,9 +384,9 @@ public final class Promise22To31BoundariesTest {
     private static void undoOfEachMethod() {
         Check.sentence("Undoes the latest change that is not final and has not been undone.");
         List<Check.Call> changes = List.of(x -> x.set(0, 9), x -> x.set(4, -9), x -> x.ask(0, 4), x -> x.keep(0, 4),
-            x -> x.forget(0), x -> x.forget(1), x -> x.sweep(1000), x -> x.sweep(-999), x -> x.put(0, 1), x -> x.put(5, 1),
-            x -> x.take(0), x -> x.take(4), x -> x.rule(1, 0), x -> x.rule(1, 2), x -> x.rule(2, 8),
-            x -> Check.load(x, "row 1 5:1;"));
+            x -> x.forget(0), x -> x.forget(1), x -> x.sweep(1000), x -> x.sweep(-999), x -> x.put(0, 1),
+            x -> x.put(5, 1), x -> x.take(0), x -> x.take(4), x -> x.rule(1, 0), x -> x.rule(1, 2),
+            x -> x.rule(2, 8), x -> Check.load(x, "row 1 5:1;"));
         for (int rule = 0; rule <= 2; rule++) {
             for (int k = 0; k < changes.size(); k++) {
                 DoubledRows x = Check.loaded("row " + rule + " 3:5 4 3 2 1;keep 0 2;keep 1 4;set 2 7;");

@@ -187,7 +187,8 @@ public final class RowBoundariesTest {
             Check.same("value(1) behind put(1, " + v + ")", x.value(1), v);
         }
         for (int v : new int[] {-1001, -1000, 1000, 1001}) {
-            Check.same("a text with " + v, Check.load(new DoubledRows(), "row 0 1:" + v + ";"), DoubledRows.OUT_OF_RANGE);
+            DoubledRows read = new DoubledRows();
+            Check.same("a text with " + v, Check.load(read, "row 0 1:" + v + ";"), DoubledRows.OUT_OF_RANGE);
             Check.refused("set(0, " + v + ")", Check.ARGUMENT, Check::busy, x -> x.set(0, v));
             Check.refused("put(0, " + v + ")", Check.ARGUMENT, Check::busy, x -> x.put(0, v));
         }
@@ -499,8 +500,8 @@ public final class RowBoundariesTest {
     private static void looksOfARun() {
         Check.sentence("A run of n places is asked on the greatest level k with 2 to the power k not greater than n:"
             + " by 1 look, if both are the same, otherwise by 2 looks");
-        int[] due = {1, 1, 2, 1, 2, 2, 2, 1, 2, 2, 2, 2, 2, 2, 2, 1, 2, 2, 2, 2, 2, 2, 2, 2, 2, 2, 2, 2, 2, 2, 2, 1, 2, 2, 2,
-            2, 2, 2, 2, 2};
+        int[] due = {1, 1, 2, 1, 2, 2, 2, 1, 2, 2, 2, 2, 2, 2, 2, 1, 2, 2, 2, 2, 2, 2, 2, 2, 2, 2, 2, 2, 2, 2, 2, 1,
+            2, 2, 2, 2, 2, 2, 2, 2};
         for (int n = 1; n <= 40; n++) {
             DoubledRows x = Check.rising(0, 40);
             Check.same("looks of the first " + n, x.looks(0, n - 1), due[n - 1]);

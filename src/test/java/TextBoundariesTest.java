@@ -161,6 +161,18 @@ public final class TextBoundariesTest {
         }
     }
 
+    /** A word with any other letter at one place of it. */
+    private static void otherLetters(String ahead, String word, String behind) {
+        for (int at = 0; at < word.length(); at++) {
+            for (char letter : new char[] {'a', (char) (word.charAt(at) + 1), 'z', 'S', '_'}) {
+                if (letter != word.charAt(at)) {
+                    String other = word.substring(0, at) + letter + word.substring(at + 1);
+                    bad(ahead + other + behind, SYNTAX, ahead.length());
+                }
+            }
+        }
+    }
+
     private static void longestRuns() {
         Check.sentence("Each run is as long as possible.");
         Check.same("12 is one number", Check.loaded("row 0 1:12;").state(0), 1);
@@ -168,11 +180,13 @@ public final class TextBoundariesTest {
         Check.same("a number ends at a sign", Check.loaded("row0 1:1-2-3;").state(0), 3);
         good("row0 1:1;set0 1;", 1);
         bad("rowset 0 1:1;", SYNTAX, 0);
+        otherLetters("", "row", " 0 1:1;");
         for (String word : new String[] {"set", "ask", "keep", "put", "take"}) {
             bad("row 0 1:1 2;" + word + "a 0 0;", SYNTAX, 12);
             bad("row 0 1:1 2;" + word + word + " 0 0;", SYNTAX, 12);
             bad("row 0 1:1 2;" + word.substring(0, word.length() - 1) + " 0 0;", SYNTAX, 12);
             bad("row 0 1:1 2;a" + word + " 0 0;", SYNTAX, 12);
+            otherLetters("row 0 1:1 2;", word, " 0 0;");
         }
         bad("row 0 1:1 2;set 00;", SYNTAX, 18);
         bad("row 0 1:1 2;take 10;", RANGE, 17);
@@ -183,8 +197,8 @@ public final class TextBoundariesTest {
 
     /** Of each token, which ones are allowed at its place: see allows. */
     private static final String[] KINDS = {"row", "number", "number", ":", "value", "rest", "number", "rest", "rest",
-        "next", "number", "value", "number", ";", "next", "number", "number", ";", "next", "number", "number", ";", "next",
-        "number", "value", "number", ";", "next", "number", ";"};
+        "next", "number", "value", "number", ";", "next", "number", "number", ";", "next", "number", "number", ";",
+        "next", "number", "value", "number", ";", "next", "number", ";"};
 
     private static boolean allows(String kind, String token) {
         boolean isNumber = Character.isDigit(token.charAt(0));
@@ -396,8 +410,8 @@ public final class TextBoundariesTest {
 
     private static void tokensThatAreNotAllowed() {
         Check.sentence("SYNTAX_ERROR: a token or byte that the grammar does not allow here, at its first byte;");
-        String[] tried = {"row", "set", "ask", "keep", "put", "take", "x", "rows", "z", "0", "-", ":", ";", "+", "!", "\t",
-            "A", "\u00e9", "\0"};
+        String[] tried = {"row", "set", "ask", "keep", "put", "take", "x", "rows", "z", "0", "-", ":", ";", "+", "!",
+            "\t", "A", "\u00e9", "\0"};
         for (int at = 0; at < TOKENS.length; at++) {
             String start = joined(at) + " ";
             for (String token : tried) {
@@ -487,6 +501,8 @@ public final class TextBoundariesTest {
         good("row 0 1:" + sevens(39) + ";", 39);
         good("row 0 1:" + sevens(39) + "7;", 40);
         bad("row 0 1:" + sevens(40) + "7;", MANY, 88);
+        bad("row 0 1:" + sevens(40) + "0;", MANY, 88);
+        bad("row 0 1:" + sevens(40) + "999;", MANY, 88);
         bad("row 0 1:" + sevens(40) + "   007;", MANY, 91);
         bad("row 0 1:" + sevens(40) + "-7;", MANY, 88);
         bad("row 0 1:" + sevens(40) + "  -  7;", MANY, 90);
