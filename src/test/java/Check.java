@@ -31,13 +31,15 @@ final class Check {
         Object on(DoubledRows x) throws Exception;
     }
 
-    /** Names the sentence that is tested from here on; the document must hold it, word by word. */
+    /** Names the sentence that is tested from here on; the document must hold it, word by word, and once. */
     static void sentence(String words) {
         sentence = words;
         if (document.isEmpty()) {
             document = readDocument();
         }
-        same("the document holds this sentence", document.contains(words), (Object) true);
+        int at = document.indexOf(words);
+        same("the document holds this sentence", at >= 0, (Object) true);
+        same("it stands there once", document.lastIndexOf(words), at);
     }
 
     private static String readDocument() {

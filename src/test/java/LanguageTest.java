@@ -6,14 +6,16 @@ import java.lang.reflect.Modifier;
 import java.nio.charset.StandardCharsets;
 import java.nio.file.Files;
 import java.nio.file.Path;
+import java.util.ArrayList;
 import java.util.Arrays;
 import java.util.HashSet;
+import java.util.List;
 import java.util.Set;
 import java.util.TreeSet;
 import java.util.regex.Matcher;
 import java.util.regex.Pattern;
 
-/** The face of the class, and those rules of the language that can be seen in it or in its file. */
+/** The face of the class (rule 1 of the language), and those rules that can be seen in the letters of its file. */
 public final class LanguageTest {
     private static final Path SOURCE = Path.of("src/main/java/DoubledRows.java");
     private static final Path DOCUMENT = Path.of("../shared/DOC.md");
@@ -23,12 +25,17 @@ public final class LanguageTest {
 
     public static void main(String[] args) throws IOException {
         faceIsThatOfTheDocument();
+        eachPromiseIsOfTheFace();
+        allNumbersAreIntegers();
         nothingElseIsOpen();
         noMethodInsideBearsAFaceName();
         noForbiddenWord();
-        loopsAndLinesStayShort();
+        linesStayShort();
         Check.end();
     }
+
+    private static final Pattern SIGNATURE =
+        Pattern.compile("(int|long|float|boolean) (\\w+)\\((.*?)\\)(?: throws ([A-Za-z, ]+))?");
 
     private static String exceptionsOf(Class<?>[] types) {
         TreeSet<String> names = new TreeSet<>();
@@ -38,33 +45,68 @@ public final class LanguageTest {
         return names.toString();
     }
 
-    private static void faceIsThatOfTheDocument() throws IOException {
-        String text = Files.readString(DOCUMENT, StandardCharsets.UTF_8);
-        String face = text.substring(text.indexOf("```java"), text.indexOf("## Terms"));
-        Set<String> due = new TreeSet<>();
-        Pattern signature = Pattern.compile("public (int|long|float|boolean) (\\w+)\\((.*?)\\)(?: throws (.*?))?;");
-        Matcher m = signature.matcher(face);
+    /** The signatures behind so much ahead of each, and so much behind it. */
+    private static Set<String> signaturesIn(String text, String ahead, String behind) {
+        Set<String> signatures = new TreeSet<>();
+        Matcher m = Pattern.compile(ahead + SIGNATURE.pattern() + behind).matcher(text);
         while (m.find()) {
             String parameters = m.group(3).replaceAll("(\\w+) \\w+", "$1").replace(" ", "");
             TreeSet<String> thrown = new TreeSet<>();
             if (m.group(4) != null) {
                 thrown.addAll(Arrays.asList(m.group(4).split(", ")));
             }
-            due.add(m.group(1) + " " + m.group(2) + "(" + parameters + ") " + thrown);
+            signatures.add(m.group(1) + " " + m.group(2) + "(" + parameters + ") " + thrown);
         }
-        Set<String> got = new TreeSet<>();
+        return signatures;
+    }
+
+    private static Set<String> signaturesOfTheClass() {
+        Set<String> signatures = new TreeSet<>();
         for (Method method : DoubledRows.class.getDeclaredMethods()) {
             if (Modifier.isPublic(method.getModifiers())) {
                 StringBuilder parameters = new StringBuilder();
                 for (Class<?> type : method.getParameterTypes()) {
                     parameters.append(parameters.length() == 0 ? "" : ",").append(type.getSimpleName());
                 }
-                got.add(method.getReturnType().getSimpleName() + " " + method.getName() + "(" + parameters + ") "
-                    + exceptionsOf(method.getExceptionTypes()));
+                signatures.add(method.getReturnType().getSimpleName() + " " + method.getName() + "(" + parameters
+                    + ") " + exceptionsOf(method.getExceptionTypes()));
             }
         }
-        Check.same("methods of the face", got, due);
+        return signatures;
+    }
+
+    private static void faceIsThatOfTheDocument() throws IOException {
+        String text = Files.readString(DOCUMENT, StandardCharsets.UTF_8);
+        String face = text.substring(text.indexOf("```java"), text.indexOf("## Terms"));
+        Set<String> due = signaturesIn(face, "public ", ";");
         Check.same("number of methods", due.size(), 30);
+        Check.same("methods of the face", signaturesOfTheClass(), due);
+    }
+
+    private static void eachPromiseIsOfTheFace() throws IOException {
+        String text = Files.readString(DOCUMENT, StandardCharsets.UTF_8);
+        String promises = text.substring(text.indexOf("## Promise 1:"));
+        Check.same("methods of the promises", signaturesIn(promises, "\n`", "`:"), signaturesOfTheClass());
+        Check.same("the constructor's promise", promises.contains("\n`DoubledRows()`:"), (Object) true);
+        Check.same("parameters of the constructor",
+            DoubledRows.class.getDeclaredConstructors()[0].getParameterCount(), 0);
+    }
+
+    private static void allNumbersAreIntegers() {
+        Check.sentence("All numbers are integers, except where float is named.");
+        Set<String> others = new TreeSet<>();
+        for (Method method : DoubledRows.class.getDeclaredMethods()) {
+            if (Modifier.isPublic(method.getModifiers())) {
+                List<Class<?>> types = new ArrayList<>(List.of(method.getParameterTypes()));
+                types.add(method.getReturnType());
+                types.removeIf(type -> type == int.class || type == long.class || type == boolean.class);
+                types.forEach(type -> others.add(method.getName() + ": " + type));
+            }
+        }
+        Check.same("numbers that are no integers", others, Set.of("costOfOne: float"));
+        for (Field field : DoubledRows.class.getFields()) {
+            Check.same("the type of " + field.getName(), field.getType(), int.class);
+        }
     }
 
     private static void nothingElseIsOpen() {
@@ -113,31 +155,20 @@ public final class LanguageTest {
         }
     }
 
+    /** What a tree does not show; LanguageRulesTest looks at all else. */
     private static void noForbiddenWord() throws IOException {
         String code = Files.readString(SOURCE, StandardCharsets.UTF_8);
-        code = code.replaceAll("(?s)/\\*.*?\\*/", "").replaceAll("//.*", "");
-        String[] forbidden = {"\\bpackage\\b", "->", "::", "\\btry\\b", "\\bcatch\\b", "\\bfinally\\b", "\\bassert\\b",
-            "\\bsynchronized\\b", "\\brecord\\b", "\\bvar\\b", "\\bdouble\\b", "System\\.(?!arraycopy)", "\\bequals\\b",
-            "\\bhashCode\\b", "\\btoString\\b", "\\w+Exact\\b", "Character\\.", "Float\\.", "Double\\.", "Arrays\\.",
-            "String\\.", "\" ?\\+|\\+ ?\"", "import (?!java\\.util\\.NoSuchElementException;)", "[^\\x00-\\x7f]"};
+        String[] forbidden = {"\\bvar\\b", "import (?!java\\.util\\.NoSuchElementException;)", "[^\\x20-\\x7e\n]"};
         for (String word : forbidden) {
             Check.same(word + " in the file", Pattern.compile(word).matcher(code).find(), (Object) false);
         }
     }
 
-    private static void loopsAndLinesStayShort() throws IOException {
-        int start = 0;
+    private static void linesStayShort() throws IOException {
         int line = 0;
         for (String text : Files.readAllLines(SOURCE, StandardCharsets.UTF_8)) {
             line++;
             Check.same("line " + line + " is short", text.length() <= 120, (Object) true);
-            if (text.matches(" {4}( {4})?\\S.*\\) .*\\{|.*\\) \\{") && text.matches(" {4,8}[a-z].*")) {
-                start = line;
-            }
-            if (text.matches(" {4}( {4})?\\}")) {
-                Check.same("the method to line " + line + " is short", line - start <= 60, (Object) true);
-                start = line;
-            }
         }
     }
 }

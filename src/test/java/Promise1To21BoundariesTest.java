@@ -1,8 +1,9 @@
+import java.util.Arrays;
 import java.util.function.Supplier;
 
 /**
- * Each sentence that names a boundary case in the constants and in 'Promise 1' to 'Promise 21', one test each: at the
- * boundary, and next to it on either side.
+ * Each sentence in the constants and in 'Promise 1' to 'Promise 21', one test each: at the boundary that it names, and
+ * next to it on either side.
  */
 public final class Promise1To21BoundariesTest {
     private static final int SPACES = 0x20202020;
@@ -16,6 +17,7 @@ public final class Promise1To21BoundariesTest {
         appendedBytes();
         appendToAFullBuffer();
         loadReadsTheFirstBytes();
+        loadReadsNoMoreThanLength();
         loadReplacesAll();
         loadEmptiesTheBuffer();
         loadWithAnError();
@@ -24,6 +26,7 @@ public final class Promise1To21BoundariesTest {
         loadOfAWrongLength();
         errorOffsets();
         stateNumbers();
+        stateTellsThisNumber();
         stateSinceTheLatestLoad();
         stateOfWrongWhat();
         valueAtNoPlace();
@@ -32,18 +35,26 @@ public final class Promise1To21BoundariesTest {
         waitsAtNoPlace();
         leastOfSeveral();
         leastCountsNothing();
+        leastOfWrongStretch();
         looksBehindWhatIsBuilt();
+        looksOfWrongStretch();
         writesNow();
         aboveAPlace();
+        aboveNoPlace();
         lessBehindIsNone();
+        lessBehindNoPlace();
         rulesLeftmost();
+        rulesOfNoPlace();
         sumOfExtremes();
+        sumOfEachStretch();
         keptAsOneNumber();
         keptThatIsNone();
         looksOfNoneKept();
         bestRuleOfSeveral();
         bestRuleNextToAStretch();
+        bestRuleAsItWouldCome();
         rankedOfSeveral();
+        rankedTellsEachPlaceOnce();
         rankThatIsNone();
         gapIsZero();
         costWithoutQuestions();
@@ -52,7 +63,7 @@ public final class Promise1To21BoundariesTest {
     }
 
     private static void errorCodes() {
-        Check.sentence("`SYNTAX_ERROR = -2`: Error code of load: the text does not follow the grammar.");
+        Check.sentence("The constants: `SYNTAX_ERROR = -2`: Error code of load: the text does not follow the grammar.");
         Check.same("SYNTAX_ERROR", DoubledRows.SYNTAX_ERROR, -2);
         Check.same("load of row", Check.load(new DoubledRows(), "row"), -2);
         Check.sentence("`OUT_OF_RANGE = -3`: Error code of load: a number is not allowed.");
@@ -158,6 +169,19 @@ public final class Promise1To21BoundariesTest {
         }
     }
 
+    private static void loadReadsNoMoreThanLength() {
+        Check.sentence("`length`: the number of bytes to read");
+        String text = "row 2 3:5 66 7;set 1 4 ;ask 0 1;keep 0 2;put 3 123;take 0;x";
+        for (int length = 0; length <= text.length(); length++) {
+            DoubledRows part = filled(text);
+            DoubledRows alone = filled(text.substring(0, length));
+            Check.same("load(" + length + ") of the longer text", part.load(length), alone.load(length));
+            Check.same("all behind load(" + length + ")", Check.allOf(part), Check.allOf(alone));
+        }
+        DoubledRows full = filled("row 0 1:5;" + " ".repeat(489) + "x");
+        Check.same("load(499): all but the last byte", full.load(499), 1);
+    }
+
     private static void loadReplacesAll() {
         Check.sentence("replaces all data by it, statement by statement.");
         DoubledRows x = Check.rising(2, 40);
@@ -248,7 +272,8 @@ public final class Promise1To21BoundariesTest {
     }
 
     private static void loadOfAWrongLength() {
-        Check.sentence("if length is negative or greater than the length of the buffer; the buffer is unchanged then");
+        Check.sentence("Throws `IllegalArgumentException` if length is negative or greater than the length of the"
+            + " buffer; the buffer is unchanged then");
         String text = "row 0 1:1 2 3;set 0 7;";
         for (int length : new int[] {Check.LEAST_INT, -41, -2, -1, 41, 42, 500, 501, Check.GREATEST_INT}) {
             Check.refused("load(" + length + ") of 40 bytes", Check.ARGUMENT, () -> filled(text), x -> x.load(length));
@@ -312,6 +337,32 @@ public final class Promise1To21BoundariesTest {
         Check.states("the greatest row, swept", x, 40, 2, 8, 6, 143, 8, 8, 8 * (8 + 1), 143, 8, 1);
         x.rule(1, 0);
         Check.states("its rule set", x, 40, 0, 8, 6, 143, 0, 8, 72, 286, 8, 2);
+    }
+
+    private static void stateTellsThisNumber() {
+        Check.sentence("Returns this number.");
+        DoubledRows x = Check.rising(2, 17);
+        x.rule(2, 8);
+        x.put(17, 18);
+        x.take(17);
+        for (int k = 0; k < 6; k++) {
+            x.keep(k, 16);
+        }
+        for (int place = 3; place < 10; place++) {
+            x.set(place, 1);
+        }
+        x.sweep(-999);
+        x.ask(16, 16);
+        x.ask(16, 16);
+        x.ask(16, 16);
+        // 7 wait, places 3 to 9: the kept stretches hold 7, 7, 7, 7, 6 and 5 of them, and a run of 7 behind them.
+        int looks = (2 + 7 + 2) + (1 + 7 + 2) + (1 + 7 + 2) + (7 + 2) + (6 + 2) + (5 + 2) + 3;
+        int[] due = {17, 2, 8, 5, 42, 7, 6, looks, 42 + 46 + 42, 9, 3};
+        Check.same("no two of them are the same", Arrays.stream(due).distinct().count(), 11);
+        Check.states("all of them", x, due);
+        for (int what = 0; what <= 10; what++) {
+            Check.same("state(" + what + ") once more", x.state(what), due[what]);
+        }
     }
 
     private static void stateSinceTheLatestLoad() {
@@ -436,6 +487,79 @@ public final class Promise1To21BoundariesTest {
             x.gap();
             Check.same("all behind least by rule " + rule, Check.allOf(x), Check.allOf(made.get()));
         }
+    }
+
+    private interface OfStretch {
+        Object call(DoubledRows x, int from, int to);
+    }
+
+    private static void refusesWrongStretches(String name, OfStretch method) {
+        for (int place : new int[] {Check.LEAST_INT, -1, 5, 6, 40, Check.GREATEST_INT}) {
+            Check.refused(name + "(0, " + place + ")", Check.BOUNDS, Check::busy, x -> method.call(x, 0, place));
+            Check.refused(name + "(" + place + ", 4)", Check.BOUNDS, Check::busy, x -> method.call(x, place, 4));
+        }
+        for (int from = 1; from <= 4; from++) {
+            int f = from;
+            Check.refused(name + "(" + f + ", 0)", Check.ARGUMENT, Check::busy, x -> method.call(x, f, 0));
+            Check.refused(name + "(" + f + ", one less)", Check.ARGUMENT, Check::busy, x -> method.call(x, f, f - 1));
+        }
+    }
+
+    private static void leastOfWrongStretch() {
+        Check.sentence("of several the leftmost one (no question is counted) @throws IndexOutOfBoundsException if"
+            + " there are no such places @throws IllegalArgumentException if from is greater than to.");
+        refusesWrongStretches("least", (x, from, to) -> x.least(from, to));
+    }
+
+    private static void looksOfWrongStretch() {
+        Check.sentence("behind all that is built for it @throws IndexOutOfBoundsException if there are no such places"
+            + " @throws IllegalArgumentException if from is greater than to.");
+        refusesWrongStretches("looks", (x, from, to) -> x.looks(from, to));
+    }
+
+    private interface AtPlace {
+        Object call(DoubledRows x, int place);
+    }
+
+    private static void refusesNoPlaces(String name, AtPlace method) {
+        for (int place : new int[] {Check.LEAST_INT, -32, -1, 5, 6, 40, 64, Check.GREATEST_INT}) {
+            Check.refused(name + "(" + place + ")", Check.BOUNDS, Check::busy, x -> method.call(x, place));
+        }
+        for (int place = 0; place < 5; place++) {
+            int p = place;
+            String answer = Check.answer(() -> method.call(Check.busy(), p));
+            Check.same(name + "(" + place + ") throws", answer.startsWith("throws."), (Object) false);
+        }
+    }
+
+    private static void aboveNoPlace() {
+        Check.sentence("tell of a place @throws IndexOutOfBoundsException if there is no such place.");
+        refusesNoPlaces("above", (x, place) -> x.above(place));
+    }
+
+    private static void lessBehindNoPlace() {
+        Check.sentence("-1 if there is none @throws IndexOutOfBoundsException if there is no such place.");
+        refusesNoPlaces("lessBehind", (x, place) -> x.lessBehind(place));
+    }
+
+    private static void rulesOfNoPlace() {
+        Check.sentence("(the leftmost one counts) @throws IndexOutOfBoundsException if there is no such place.");
+        refusesNoPlaces("rules", (x, place) -> x.rules(place));
+    }
+
+    private static void sumOfEachStretch() {
+        Check.sentence("Returns the sum of the values of a stretch @throws IndexOutOfBoundsException if there are no"
+            + " such places @throws IllegalArgumentException if from is greater than to.");
+        DoubledRows x = Check.loaded("row 2 8:1 -20 300 -4 50;set 1 -21;");
+        int[] values = {1, -21, 300, -4, 50};
+        for (int from = 0; from < 5; from++) {
+            int due = 0;
+            for (int to = from; to < 5; to++) {
+                due += values[to];
+                Check.same("sum(" + from + ", " + to + ")", x.sum(from, to), due);
+            }
+        }
+        refusesWrongStretches("sum", (y, from, to) -> y.sum(from, to));
     }
 
     private static void looksBehindWhatIsBuilt() {
@@ -633,6 +757,77 @@ public final class Promise1To21BoundariesTest {
         Check.same("one kept: 4, 4 and 3", Check.loaded(three + "keep 0 2;").bestRule(1), 2);
         Check.same("two kept: 6, 6 and 6", Check.loaded(three + "keep 0 2;".repeat(2)).bestRule(1), 0);
         Check.same("three kept: 8, 8 and 9", Check.loaded(three + "keep 0 2;".repeat(3)).bestRule(1), 0);
+    }
+
+    private static void bestRuleAsItWouldCome() {
+        Check.sentence("Returns the rule (0 to 2) by which the fewest looks and writes together would come, if no"
+            + " place waited now and the rule was this, a value was set at a place (to what it is), and all kept"
+            + " stretches were asked behind that, one after the other; of several the smallest");
+        int[] told = new int[3];
+        for (int n = 1; n <= 11; n++) {
+            String values = ":" + "7 ".repeat(n) + ";";
+            for (int kind = 0; kind < 12; kind++) {
+                String kept = keptStretches(n, kind);
+                for (int place = 0; place < n; place++) {
+                    int due = cheapestRule(values + kept, place);
+                    DoubledRows x = Check.loaded("row " + kind % 3 + " 8" + values + kept + "set 0 5;");
+                    String call = "bestRule(" + place + ") of " + n + " values with " + kept;
+                    Check.same(call, x.bestRule(place), due);
+                    told[due]++;
+                }
+            }
+        }
+        for (int rule = 0; rule <= 2; rule++) {
+            Check.same("rule " + rule + " is the best one at times", told[rule] > 0, (Object) true);
+        }
+    }
+
+    /** One to four times a stretch, or none, as statements. */
+    private static String keptStretches(int count, int kind) {
+        int from = kind * 5 % count;
+        int to = from + (count - 1 - from) * (kind % 4 + 1) / 4;
+        return ("keep " + from + " " + to + ";").repeat(kind % 5);
+    }
+
+    /** What comes by each rule is counted by objects of that rule: the document says what they do. */
+    private static int cheapestRule(String rest, int place) {
+        int cheapest = 0;
+        int least = Check.GREATEST_INT;
+        for (int rule = 0; rule <= 2; rule++) {
+            DoubledRows would = Check.loaded("row " + rule + " 1" + rest);
+            int before = would.state(7) + would.state(8);
+            would.set(place, would.value(place));
+            for (int k = 0; k < would.state(6); k++) {
+                would.ask(would.kept(k) / 100, would.kept(k) % 100);
+            }
+            int cost = would.state(7) + would.state(8) - before;
+            cheapest = cost < least ? rule : cheapest;
+            least = Math.min(cost, least);
+        }
+        return cheapest;
+    }
+
+    private static void rankedTellsEachPlaceOnce() {
+        Check.sentence("Returns the places by their values: the one at a rank, from 0; first the one with the least,"
+            + " of several the leftmost one");
+        for (int n = 1; n <= 40; n++) {
+            DoubledRows x = Check.rising(0, n);
+            for (int place = 0; place < n; place++) {
+                x.set(place, place * 7 % 5 - 2);
+            }
+            int before = -1;
+            for (int rank = 0; rank < n; rank++) {
+                int place = x.ranked(rank);
+                String call = "ranked(" + rank + ") of " + n;
+                // Rising values, and rising places of one value: so no place is told twice.
+                if (rank > 0) {
+                    int more = Integer.compare(x.value(place), x.value(before));
+                    Check.same(call + " is behind the one before", more > 0 || more == 0 && place > before,
+                        (Object) true);
+                }
+                before = place;
+            }
+        }
     }
 
     private static void rankedOfSeveral() {

@@ -4,8 +4,8 @@ import java.util.List;
 import java.util.function.Supplier;
 
 /**
- * Each sentence that names a boundary case in 'Promise 22' to 'Promise 31', one test each: at the boundary, and next
- * to it on either side.
+ * Each sentence in 'Promise 22' to 'Promise 31', one test each: at the boundary that it names, and next to it on either
+ * side.
  */
 public final class Promise22To31BoundariesTest {
     private Promise22To31BoundariesTest() {
@@ -39,6 +39,8 @@ public final class Promise22To31BoundariesTest {
         checksumOfTheLeast();
         checksumWrapsAround();
         checksumOrder();
+        checksumComputes();
+        checksumReturned();
         Check.end();
     }
 
@@ -497,6 +499,34 @@ public final class Promise22To31BoundariesTest {
             numbers.add(x.kept(k));
         }
         return numbers;
+    }
+
+    private static void checksumComputes() {
+        Check.sentence("Computes a checksum.");
+        for (int rule = 0; rule <= 2; rule++) {
+            int r = rule;
+            Supplier<DoubledRows> made = () -> Check.loaded("row " + r + " 8:5 4 3;keep 0 2;keep 1 1;set 0 1;");
+            DoubledRows x = made.get();
+            long first = x.checksum();
+            Check.same("checksum() once more by rule " + rule, x.checksum(), first);
+            Check.same("all behind checksum() by rule " + rule, Check.allOf(x), Check.allOf(made.get()));
+        }
+    }
+
+    private static void checksumReturned() {
+        Check.sentence("Returns the checksum.");
+        Check.Call[] changes = {x -> x.set(0, 4), x -> x.set(2, -7), x -> x.ask(0, 3), x -> x.keep(0, 3),
+            x -> x.forget(0), x -> x.forget(1), x -> x.sweep(5), x -> x.put(0, 5), x -> x.put(4, 5), x -> x.take(0),
+            x -> x.take(3), x -> x.rule(1, 0), x -> x.rule(1, 1), x -> x.rule(2, 4), x -> Check.load(x, "row 0 1:5;")};
+        List<Long> told = new ArrayList<>();
+        for (Check.Call change : changes) {
+            DoubledRows x = Check.loaded("row 2 3:5 4 3 2;keep 1 2;keep 2 3;set 1 4;");
+            Check.answer(() -> change.on(x));
+            long due = checksumByHand(numbersOf(x)).longValue();
+            Check.same("checksum() behind change " + told.size(), x.checksum(), due);
+            Check.same("no other change has this checksum", told.contains(due), (Object) false);
+            told.add(due);
+        }
     }
 
     private static void checksumOrder() {

@@ -1,8 +1,8 @@
 import java.util.function.Supplier;
 
 /**
- * Each sentence that names a boundary case in 'What it is' and, of 'Terms', in 'Conventions', 'Values and cells',
- * 'Changes and rules' and 'Questions', one test each: at the boundary, and next to it on either side.
+ * Each sentence in 'What it is' and, of 'Terms', in 'Conventions', 'Values and cells', 'Changes and rules' and
+ * 'Questions', one test each: at the boundary that it names, and next to it on either side.
  */
 public final class RowBoundariesTest {
     private static final int[] SIZES = {1, 2, 3, 4, 5, 7, 8, 9, 15, 16, 17, 31, 32, 33, 39, 40};
@@ -11,6 +11,7 @@ public final class RowBoundariesTest {
     }
 
     public static void main(String[] args) {
+        whatItIs();
         the512thCall();
         leastIsInTheStretch();
         placesFrom0();
@@ -29,6 +30,7 @@ public final class RowBoundariesTest {
         setToTheSame();
         whenAllIsBuilt();
         mostAlone();
+        leastValueOfAStretch();
         builtFirstIfSomeWait();
         partsOfAStretch();
         oneLookForOneThatWaits();
@@ -83,6 +85,38 @@ public final class RowBoundariesTest {
             values[place] = x.value(place);
         }
         return values;
+    }
+
+    private static void whatItIs() {
+        Check.sentence("A row of values that is asked for the least of a stretch by two looks into rows of doubled"
+            + " widths: cells that tell the least of so many values, looks that overlap, ties by the left, values that"
+            + " change, cells that are written anew at once, at the next question, or when too many changes wait,"
+            + " stretches that are kept and asked together, values put in and taken out, what all this costs, and what"
+            + " would be.");
+        int[] writtenBySet = {0, 4, 0};
+        int[] writtenByTwo = {0, 8, 6};
+        int[] writtenByAsk = {6, 8, 6};
+        for (int rule = 0; rule <= 2; rule++) {
+            DoubledRows x = of(rule, 1, 5, 3, 8, 3, 7);
+            String by = "by rule " + rule + ": ";
+            Check.cells(by + "cells", x, 1, 1, 1, 3, 3);
+            Check.cells(by + "cells", x, 2, 1, 1);
+            Check.same(by + "two looks that overlap, a tie", x.ask(0, 4), 1);
+            Check.same(by + "two looks", x.state(7), 2);
+            Check.same(by + "a value changes", x.set(1, 6), 3);
+            Check.same(by + "written at once", x.state(8) - 6, writtenBySet[rule]);
+            Check.same(by + "what would be written", x.writes(), rule == 0 ? 6 : 0);
+            Check.same(by + "another one changes", x.set(1, 9) + x.set(3, 9), 6 + 3);
+            Check.same(by + "too many changes wait", x.state(8) - 6 - writtenBySet[rule], writtenByTwo[rule]);
+            Check.same(by + "a question behind them", x.ask(0, 4), 0);
+            Check.same(by + "all that was written", x.state(8) - 6 - writtenBySet[rule], writtenByAsk[rule]);
+            Check.same(by + "a stretch is kept, and a second one", x.keep(0, 4) * 10 + x.keep(2, 3), 12);
+            Check.same(by + "a value is put in", x.put(0, 4), 6);
+            Check.same(by + "a value is taken out", x.take(5), 7);
+            Check.keptOnes(by + "kept", x, 104, 304);
+            Check.same(by + "what they would cost", x.looksOfKept(), 2);
+            Check.same(by + "they are asked together", x.sweep(6) * 10 + x.state(9), 14);
+        }
     }
 
     private static void the512thCall() {
@@ -434,6 +468,29 @@ public final class RowBoundariesTest {
         Check.same("a question builds nothing", x.state(5), 3);
         x.set(2, 2);
         Check.same("the next set builds, also at a place that waits", x.state(5), 0);
+    }
+
+    private static void leastValueOfAStretch() {
+        Check.sentence("A question asks for the least value of a stretch.");
+        for (int rule = 0; rule <= 2; rule++) {
+            // Each row of six values 0 or 1, made by sets: some places wait, and some do not.
+            for (int row = 0; row < 64; row++) {
+                DoubledRows x = of(rule, 3, 0, 1, 0, 1, 1, 0);
+                for (int place = 0; place < 6; place++) {
+                    int value = row >> place & 1;
+                    if (x.value(place) != value) {
+                        x.set(place, value);
+                    }
+                }
+                int[] values = valuesOf(x, 6);
+                for (int from = 0; from < 6; from++) {
+                    for (int to = from; to < 6; to++) {
+                        String call = "row " + row + " by rule " + rule + ": ask(" + from + ", " + to + ")";
+                        Check.same(call, x.ask(from, to), leastByHand(values, from, to));
+                    }
+                }
+            }
+        }
     }
 
     private static void builtFirstIfSomeWait() {

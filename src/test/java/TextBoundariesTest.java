@@ -1,8 +1,11 @@
+import java.util.ArrayList;
 import java.util.List;
+import java.util.regex.Matcher;
+import java.util.regex.Pattern;
 
 /**
- * Each sentence that names a boundary case in the part 'Setup text' of 'Terms', one test each: at the boundary, and
- * next to it on either side.
+ * Each sentence in the part 'Setup text' of 'Terms', one test each: at the boundary that it names, and next to it on
+ * either side.
  */
 public final class TextBoundariesTest {
     private static final int SYNTAX = DoubledRows.SYNTAX_ERROR;
@@ -16,6 +19,9 @@ public final class TextBoundariesTest {
     public static void main(String[] args) {
         bytesOfTheBuffer();
         statementsInTheBuffer();
+        grammarOfSetup();
+        grammarOfStatements();
+        grammarOfValues();
         numbersOfAnyLength();
         leadingZeros();
         digitsAndLetters();
@@ -89,6 +95,103 @@ public final class TextBoundariesTest {
         Check.same("looks of a full buffer", x.state(7), fit);
         bad(row + "ask0 0;".repeat(fit - 1) + "ask0 1;", RANGE, row.length() + 7 * (fit - 1) + 5);
         bad(row + "ask0 0;".repeat(fit - 1) + "ask0 0", SYNTAX, row.length() + 7 * fit - 1);
+    }
+
+    /** The grammar over the first letters of the tokens, for "." stands where a token is none of the grammar. */
+    private static final Pattern GRAMMAR = Pattern.compile("r11:(-?1)+;((s1-?1|a11|k11|p1-?1|t1);)*");
+    private static final String LETTERS = "r1:-;sakpt.";
+    private static final String[] WORDS = {"row", "1", ":", "-", ";", "set", "ask", "keep", "put", "take", "!"};
+
+    /**
+     * A text of these tokens is right if they follow the grammar; otherwise it is wrong at the first token with which
+     * no text can begin any more, or at its end. All numbers are 1, and there are enough values: no number is out of
+     * its range.
+     */
+    private static void followsGrammar(String letters) {
+        StringBuilder text = new StringBuilder();
+        int wrongAt = -1;
+        for (int k = 0; k < letters.length(); k++) {
+            text.append(text.length() == 0 ? "" : " ");
+            if (wrongAt < 0 && !canBegin(letters.substring(0, k + 1))) {
+                wrongAt = text.length();
+            }
+            text.append(WORDS[LETTERS.indexOf(letters.charAt(k))]);
+        }
+        if (GRAMMAR.matcher(letters).matches()) {
+            DoubledRows x = new DoubledRows();
+            Check.same("load of " + text + " is right", Check.load(x, text.toString()) > 0, (Object) true);
+            Check.same("errorOffset() of " + text, x.errorOffset(), -1);
+        } else {
+            bad(text.toString(), SYNTAX, wrongAt < 0 ? text.length() : wrongAt);
+        }
+    }
+
+    private static boolean canBegin(String letters) {
+        Matcher m = GRAMMAR.matcher(letters);
+        return m.matches() || m.hitEnd();
+    }
+
+    /** The tokens as they are, and with each one left out, replaced by each other one, or with one put in. */
+    private static List<String> changedByOne(String letters) {
+        List<String> all = new ArrayList<>(List.of(letters));
+        for (int at = 0; at <= letters.length(); at++) {
+            String start = letters.substring(0, at);
+            String rest = letters.substring(at);
+            all.add(start);
+            for (char other : LETTERS.toCharArray()) {
+                all.add(start + other + rest);
+                if (at < letters.length()) {
+                    all.add(start + other + rest.substring(1));
+                }
+            }
+            if (at < letters.length()) {
+                all.add(start + rest.substring(1));
+            }
+        }
+        return all;
+    }
+
+    private static void grammarOfSetup() {
+        Check.sentence("Its grammar is: ```text setup = \"row\" number number \":\" value { value } \";\" { statement"
+            + " \";\" }");
+        for (String letters : changedByOne("r11:1111;")) {
+            followsGrammar(letters);
+        }
+        good("row 1 1:1;", 1);
+        good("row 1 1:1 1;", 2);
+        bad("row 1 1:;", SYNTAX, 8);
+        good("row 1 1:1 1;ask 1 1;", 2);
+        good("row 1 1:1 1;ask 1 1;ask 1 1;", 2);
+        bad("row 1 1:1 1;;", SYNTAX, 12);
+        bad("row 1 1:1 1;ask 1 1", SYNTAX, 19);
+    }
+
+    private static void grammarOfStatements() {
+        Check.sentence("statement = \"set\" number value | \"ask\" number number | \"keep\" number number | \"put\""
+            + " number value | \"take\" number");
+        String row = "r11:1111;";
+        for (String letters : changedByOne("s11;a11;k11;p11;t1;s1-1;p1-1;")) {
+            followsGrammar(row + letters);
+        }
+        for (String once : changedByOne("s11;p1-1;t1;")) {
+            for (String twice : changedByOne(once)) {
+                followsGrammar(row + twice);
+            }
+        }
+        for (String once : changedByOne("a11;k11;")) {
+            for (String twice : changedByOne(once)) {
+                followsGrammar(row + twice);
+            }
+        }
+    }
+
+    private static void grammarOfValues() {
+        Check.sentence("value = [ \"-\" ] number");
+        for (String letters : changedByOne("r11:-11-11;s1-1;p1-1;s11;p11;")) {
+            followsGrammar(letters);
+        }
+        Check.values("with and without a sign", Check.loaded("row 0 1:5 -5 5-5;set 0 -6;put 4 -7;put 5 7;"), -6, -5, 5,
+            -5, -7, 7);
     }
 
     private static void numbersOfAnyLength() {
