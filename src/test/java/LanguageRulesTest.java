@@ -8,8 +8,10 @@ import com.sun.source.tree.ForLoopTree;
 import com.sun.source.tree.LiteralTree;
 import com.sun.source.tree.MethodInvocationTree;
 import com.sun.source.tree.MethodTree;
+import com.sun.source.tree.ModifiersTree;
 import com.sun.source.tree.NewArrayTree;
 import com.sun.source.tree.NewClassTree;
+import com.sun.source.tree.ParenthesizedTree;
 import com.sun.source.tree.ThrowTree;
 import com.sun.source.tree.Tree;
 import com.sun.source.tree.Tree.Kind;
@@ -165,6 +167,10 @@ public final class LanguageRulesTest {
             return false;
         }
 
+        private static boolean isStatic(ModifiersTree modifiers) {
+            return modifiers.getFlags().contains(Modifier.STATIC);
+        }
+
         private TypeMirror typeOf(Tree tree) {
             return trees.getTypeMirror(new TreePath(getCurrentPath(), tree));
         }
@@ -196,13 +202,11 @@ public final class LanguageRulesTest {
         public Void visitClass(ClassTree tree, Void nothing) {
             classes++;
             boolean isInside = getCurrentPath().getParentPath().getLeaf() instanceof ClassTree;
-            boolean isStatic = tree.getModifiers().getFlags().contains(Modifier.STATIC);
             boolean isOutside = getCurrentPath().getParentPath().getLeaf() instanceof CompilationUnitTree;
-            demand("2: a static class inside", tree, isOutside || isInside && isStatic);
+            demand("2: a static class inside", tree, isOutside || isInside && isStatic(tree.getModifiers()));
             int fields = 0;
             for (Tree member : tree.getMembers()) {
-                boolean isField = member instanceof VariableTree;
-                fields += isField && !((VariableTree) member).getModifiers().getFlags().contains(Modifier.STATIC) ? 1 : 0;
+                fields += member instanceof VariableTree field && !isStatic(field.getModifiers()) ? 1 : 0;
                 demand("5: no initialiser block", member, member.getKind() != Kind.BLOCK);
             }
             demand("11: some twenty fields", tree, fields <= MOST_FIELDS);
@@ -227,7 +231,8 @@ public final class LanguageRulesTest {
                 return dimensions > 0 && isAllowed(array.getComponentType(), dimensions - 1);
             }
             String name = type.toString();
-            return NUMBERS.contains(type.getKind()) || name.startsWith("DoubledRows") || name.equals("java.lang.String");
+            boolean isClass = name.startsWith("DoubledRows") || name.equals("java.lang.String");
+            return isClass || NUMBERS.contains(type.getKind());
         }
 
         @Override
@@ -357,7 +362,7 @@ public final class LanguageRulesTest {
             Deque<Tree> parts = new ArrayDeque<>(List.of(condition));
             while (!parts.isEmpty()) {
                 Tree part = parts.pop();
-                if (part instanceof com.sun.source.tree.ParenthesizedTree inner) {
+                if (part instanceof ParenthesizedTree inner) {
                     parts.push(inner.getExpression());
                 } else if (part instanceof BinaryTree both && both.getKind() == Kind.CONDITIONAL_AND) {
                     parts.push(both.getLeftOperand());

@@ -58,8 +58,8 @@ public final class ReadmeTest {
                 if (name.equals("javac")) {
                     words.replaceAll(word -> word.equals("out") || word.equals(EXAMPLE)
                         ? folder.resolve(word).toString() : word);
-                    int answer = ToolProvider.getSystemJavaCompiler().run(null, null, null, words.toArray(new String[0]));
-                    Check.same(command, answer, 0);
+                    String[] arguments = words.toArray(new String[0]);
+                    Check.same(command, ToolProvider.getSystemJavaCompiler().run(null, null, null, arguments), 0);
                     compiled++;
                 } else if (name.equals("java")) {
                     String made = "out/" + words.get(words.size() - 1) + ".class";
